@@ -325,7 +325,7 @@ final class Model {
     /** All quilts, limit at most; null if it takes too long. */
     private List<int[]> quilts(State from, int limit) {
         List<int[]> found = new ArrayList<>();
-        budget = 20000;
+        budget = 50000;
         extend(from.copy(), from, 0, limit, found);
         return budget < 0 ? null : found;
     }

@@ -26,6 +26,7 @@ public final class ModelTest {
         QuiltPatches x = new QuiltPatches();
         Model y = new Model();
         int calls = 0;
+        int layingOneIn = 2 + random.nextInt(30);
         while (calls < 512) {
             if (calls == 0 || random.nextInt(150) == 0) {
                 String text = text(random);
@@ -41,7 +42,7 @@ public final class ModelTest {
                 continue;
             }
             int which = random.nextInt(20) == 0 ? random.nextInt(3) : 3 + random.nextInt(NAMES.length - 3);
-            if (random.nextInt(4) == 0) {
+            if (random.nextInt(layingOneIn) == 0) {
                 which = 5;
             }
             int a = argument(random, which, y);
