@@ -41,7 +41,7 @@ public final class ModelTest {
                 }
                 continue;
             }
-            int which = random.nextInt(20) == 0 ? random.nextInt(3) : 3 + random.nextInt(NAMES.length - 3);
+            int which = random.nextInt(200) == 0 ? random.nextInt(3) : 3 + random.nextInt(NAMES.length - 3);
             if (random.nextInt(layingOneIn) == 0) {
                 which = 5;
             }
@@ -100,10 +100,10 @@ public final class ModelTest {
 
     private static String text(Random random) {
         StringBuilder s = new StringBuilder();
-        int colours = 1 + random.nextInt(random.nextInt(4) == 0 ? 10 : 3);
+        int colours = 1 + random.nextInt(random.nextInt(8) == 0 ? 10 : 3);
         int shift = random.nextInt(11 - colours);
         boolean scarce = random.nextBoolean();
-        int kinds = random.nextInt(7);
+        int kinds = random.nextInt(10) == 0 ? 0 : 1 + random.nextInt(6);
         int wAt = random.nextInt(10);
         int rimAt = random.nextInt(20);
         int mostAt = random.nextInt(10);
