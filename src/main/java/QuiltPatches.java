@@ -52,6 +52,7 @@ public final class QuiltPatches {
         for (int i = 0; i < IMAGES; i++) {
             images[i] = new Layout();
         }
+        cloth.measure(told);
     }
 
     // ---- what is told
@@ -506,17 +507,21 @@ public final class QuiltPatches {
     /** All that a text tells. */
     private static final class Told {
         int kinds;
-        int width = 2;
-        int height = 2;
-        int rim = NONE;
-        int most = 9;
-        int side = 4;
-        int border = 1;
+        int width;
+        int height;
+        int rim;
+        int most;
+        int side;
+        int border;
         final int[] edges = new int[KINDS * HANDS];
         final int[] hues = new int[KINDS];
         final int[] stocks = new int[KINDS];
         /** Which plain blocks (bits) have an edge on a hand: at EDGES times the hand, and the edge. */
         final int[] having = new int[HANDS * EDGES];
+
+        Told() {
+            startAnew();
+        }
 
         void startAnew() {
             kinds = 0;
@@ -845,7 +850,7 @@ public final class QuiltPatches {
         final int[] stocks = new int[KINDS];
 
         Layout() {
-            Arrays.fill(blocks, NONE);
+            openAll();
         }
 
         void begin(Told told) {
@@ -1078,8 +1083,8 @@ public final class QuiltPatches {
     private static final class Cloth {
         static final int CELLS = (LONGEST + 1) * (LONGEST + 1);
 
-        final int[] lesser = {4, 1, 1};
-        final int[] greater = {4, 10, 10};
+        final int[] lesser = new int[PIECES];
+        final int[] greater = new int[PIECES];
         final int[] used = new int[CELLS];
         final int[] cuts = new int[CELLS];
         final int[] gives = new int[PIECES * CELLS];
