@@ -9,7 +9,7 @@ public final class TextTest {
         told("e0;", 1);
         told("e9;", 1);
         told(" e 9 ; ", 1);
-        told("m1;m", -1, 3);
+        faultOf("m1;m", 3);
         told("w1 1;e0;m1;s1 1;", 4);
         told("s9 4;m9;e9;w3 2;", 4);
         told("s9 4;k0 0 0 0 0 0;m9;k9 9 9 9 5 9;", 4);
@@ -31,10 +31,6 @@ public final class TextTest {
         Due.type(x, text);
         DUE.is("tells() of '" + text + "'", x.tells(), items);
         DUE.is("letters behind '" + text + "'", x.count(8), items < 0 ? text.length() : 0);
-    }
-
-    private static void told(String text, int unused, int fault) {
-        told(text, -10 - fault);
     }
 
     private static void faultOf(String text, int place) {
