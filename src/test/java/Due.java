@@ -16,6 +16,15 @@ final class Due {
         is(what, so ? 1 : 0, 1);
     }
 
+    void same(String what, String got, String want) {
+        if (got.equals(want)) {
+            right++;
+        } else {
+            wrong++;
+            System.out.println(what + ": got\n" + got + "\ndue is\n" + want);
+        }
+    }
+
     int wrongs() {
         return wrong;
     }
