@@ -303,6 +303,13 @@ public final class BoundsOfClothTest {
         due("tells()", x.tells(), 1);
         due("good(9, 9) told", x.good(9, 9), 81);
         due("cut(9, 9) told", x.cut(9, 9), 1);
+        due("good(4, 4) told: no piece any more", x.good(4, 4), 0);
+        due("cut(4, 4) told: no piece any more", x.cut(4, 4), 0);
+        made(x, 4, 4, 0, 0, 0);
+        due("cut(10, 1) told: no strip any more", x.cut(10, 1), 0);
+        made(x, 10, 1, 0, 0, 0);
+        made(x, 8, 8, 0, 0, 0);
+        made(x, 9, 9, 1, 0, 0);
         Due.type(x, "s1 1;s");
         due("tells() with a fault", x.tells(), -15);
         due("good(9, 9) behind a fault", x.good(9, 9), 81);

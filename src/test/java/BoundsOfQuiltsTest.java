@@ -39,6 +39,7 @@ public final class BoundsOfQuiltsTest {
         wantingCountsWhatIsLaid();
         huesInOrder();
         huesBeyond();
+        nothingOfAnEarlierText();
         DUE.end("BoundsOfQuiltsTest");
     }
 
@@ -79,6 +80,8 @@ public final class BoundsOfQuiltsTest {
             due("left(0, " + i + ") of all", x.left(0, i), i);
         }
         due("left(0, 24) of all", x.left(0, 24), NONE);
+        due("next() where all are left", x.next(), 0);
+        due("many(300) where all are left", x.many(300), 24);
     }
 
     /** the i-th (0 on) of these; NONE: not so many; BAD (i below -1). */
@@ -141,6 +144,11 @@ public final class BoundsOfQuiltsTest {
         QuiltPatches x = Due.told("k0 0 2 1 0 9;k3 1 0 3 0 9;k2 0 0 3 0 9;k1 3 0 2 0 9;k0 1 3 0 0 9;w3 2;e0;");
         for (int s = 0; s < 6; s++) {
             leftAre(x, s);
+        }
+        // Here each square loses something in the first round, and all that it has later.
+        QuiltPatches z = Due.told("k1 1 0 0 0 9;k0 0 2 1 0 9;w3 2;e0;");
+        for (int s = 0; s < 6; s++) {
+            leftAre(z, s);
         }
         QuiltPatches y = Due.told(ENDS);
         leftAre(y, 0, 0, 10);
@@ -283,6 +291,12 @@ public final class BoundsOfQuiltsTest {
         }
         due("just enough in all", Due.told("k0 0 0 0 0 2;k0 0 0 0 1 2;").many(300), 6);
         due("one too few in all", Due.told("k0 0 0 0 0 2;k0 0 0 0 1 1;").many(300), 0);
+        QuiltPatches less = Due.told("k0 0 0 0 0 1;k0 0 0 0 0 3;");
+        less.lays(0, 0);
+        less.buys(0, 0);
+        due("less than none of one kind takes nothing from another", less.many(300), 1);
+        due("nor is that one wanting", less.wanting(0), 0);
+        due("the other one is wanting just so", less.wanting(1), 3);
         QuiltPatches y = Due.told("k0 0 0 0 0 3;");
         due("one too few of one kind", y.many(300), 0);
         y.lays(0, 0);
@@ -297,6 +311,11 @@ public final class BoundsOfQuiltsTest {
             QuiltPatches x = Due.told("k0 0 0 0 2 9;k0 0 0 0 5 9;m" + most + ";");
             due("many(300) with most " + most, x.many(300), quilts[most - 1]);
         }
+        QuiltPatches laid = Due.told("k0 0 0 0 2 9;k0 0 0 0 5 9;w3 1;m2;");
+        laid.lays(1, 0);
+        due("a hue that is laid counts", laid.many(300), 3);
+        quiltIs(laid, 0, 0, 0, 4);
+        quiltIs(laid, 2, 4, 0, 4);
         due("two kinds of one hue", Due.told("k0 0 0 0 2 9;k0 0 0 0 2 9;m3;").many(300), 0);
         due("two kinds of one hue, just so often", Due.told("k0 0 0 0 2 9;k0 0 0 0 2 9;m4;").many(300), 16);
     }
@@ -473,5 +492,24 @@ public final class BoundsOfQuiltsTest {
         due("hue(6, 3)", x.hue(6, 3), BAD);
         due("count(10) of six", x.count(10), 6);
         due("count(10) of one", Due.told("k0 0 0 0 4 9;".repeat(6)).count(10), 1);
+    }
+
+    /** THE TEXT tells all anew: blocks of the one before, and of the one before that, are not met any more. */
+    private static void nothingOfAnEarlierText() {
+        QuiltPatches x = Due.told("k1 2 3 4 0 9;k5 6 7 8 1 9;k0 0 0 0 2 9;w1 1;");
+        String[] texts = {"k0 0 0 0 0 9;w1 1;", "k5 5 5 5 0 9;w1 1;", "w1 1;", "k1 1 1 1 0 9;w1 1;", "k0 0 0 0 0 9;w2 1;", ""};
+        int[] leftThen = {1, 1, 0, 1, 1, 0};
+        for (int i = 0; i < texts.length; i++) {
+            Due.type(x, texts[i]);
+            x.tells();
+            due("left(0, -1) of '" + texts[i] + "'", x.left(0, -1), leftThen[i]);
+            due("many(300) of '" + texts[i] + "'", x.many(300), leftThen[i]);
+            due("next() of '" + texts[i] + "'", x.next(), 0);
+        }
+        Due.type(x, "k3 3 3 3 0 9;k1 0 1 0 0 9;w2 1;");
+        x.tells();
+        leftAre(x, 0, 0, 4, 5);
+        leftAre(x, 1, 0, 4, 5);
+        due("many(300)", x.many(300), 3);
     }
 }
