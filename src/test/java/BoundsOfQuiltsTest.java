@@ -316,8 +316,27 @@ public final class BoundsOfQuiltsTest {
         due("a hue that is laid counts", laid.many(300), 3);
         quiltIs(laid, 0, 0, 0, 4);
         quiltIs(laid, 2, 4, 0, 4);
+        lastBlockOfTheLastHue();
         due("two kinds of one hue", Due.told("k0 0 0 0 2 9;k0 0 0 0 2 9;m3;").many(300), 0);
         due("two kinds of one hue, just so often", Due.told("k0 0 0 0 2 9;k0 0 0 0 2 9;m4;").many(300), 16);
+    }
+
+    /** All other hues are there as often as they may be, all other stocks are used up: still one QUILT. */
+    private static void lastBlockOfTheLastHue() {
+        for (int last = 0; last < 6; last++) {
+            QuiltPatches x = Due.told(ALIKE.replace("9;", "1;") + "w3 2;m1;");
+            for (int k = 0; k < 6; k++) {
+                if (k != last) {
+                    x.lays(k, 4 * k);
+                }
+            }
+            due("many(300) of the last, " + last, x.many(300), 1);
+            due("quilt(0, last) of the last, " + last, x.quilt(0, last), 4 * last);
+            due("sure() of the last, " + last, x.sure(), 1 << last);
+            due("wanting(last) of the last, " + last, x.wanting(last), 1);
+            x.buys(last, 0);
+            due("many(300) without the last, " + last, x.many(300), 0);
+        }
     }
 
     /** SURE: OPEN SQUARES (bits) that have the same BLOCK in all QUILTS. */

@@ -30,12 +30,13 @@ public final class ModelTest {
         while (calls < 512) {
             if (calls == 0 || random.nextInt(150) == 0) {
                 String text = text(random);
-                for (int i = 0; i < text.length() && calls < 511; i++, calls++) {
+                // Two calls stay for tells() and clear(): what comes behind the 512th is free.
+                for (int i = 0; i < text.length() && calls < 510; i++, calls++) {
                     compare(due, seed, x, y, 0, text.charAt(i), 0, 0);
                 }
                 compare(due, seed, x, y, 2, 0, 0, 0);
                 calls++;
-                if (y.count(8) > 0) {
+                if (y.count(8) > 0 && calls < 512) {
                     compare(due, seed, x, y, 1, 0, 0, 0);
                     calls++;
                 }
