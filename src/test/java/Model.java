@@ -12,8 +12,6 @@ import java.util.regex.Pattern;
 /** The document once more, as slowly and plainly as can be, to compare the class with. */
 final class Model {
     static final int BAD = -1, STATE = -2, FULL = -3, NONE = -9;
-    /** Said where working it out would take too long. */
-    static final int UNKNOWN = Integer.MIN_VALUE;
     private static final Pattern TOKEN = Pattern.compile(" *([0-9]+|[^ 0-9])", Pattern.DOTALL);
     private static final int[] DY = {-1, 0, 1, 0};
     private static final int[] DX = {0, 1, 0, -1};
@@ -48,7 +46,9 @@ final class Model {
     private final Deque<State> past = new ArrayDeque<>();
     private final State[] images = new State[2];
     private final Map<Integer, Integer> goods = new HashMap<>();
-    private int budget;
+    /** Of each block its edges and whether it is plain: once for a text, as all quilts are walked one by one. */
+    private int[][] turned = new int[0][];
+    private boolean[] isPlain = new boolean[0];
 
     private static Map<Character, int[]> defaults() {
         Map<Character, int[]> map = new HashMap<>();
@@ -117,6 +117,7 @@ final class Model {
         images[0] = null;
         images[1] = null;
         goods.clear();
+        turnBlocks();
         text = "";
         return items;
     }
@@ -160,17 +161,24 @@ final class Model {
         return left;
     }
 
+    private void turnBlocks() {
+        turned = new int[4 * kinds.size()][];
+        isPlain = new boolean[4 * kinds.size()];
+        for (int b = 0; b < turned.length; b++) {
+            int[] e = Arrays.copyOf(kinds.get(b / 4), 4);
+            for (int turn = 0; turn < b % 4; turn++) e = new int[] {e[3], e[0], e[1], e[2]};
+            turned[b] = e;
+            isPlain[b] = true;
+            for (int lesser = b / 4 * 4; lesser < b; lesser++) isPlain[b] &= !Arrays.equals(turned[lesser], e);
+        }
+    }
+
     private int[] edges(int block) {
-        int[] e = Arrays.copyOf(kinds.get(block / 4), 4);
-        for (int turn = 0; turn < block % 4; turn++) e = new int[] {e[3], e[0], e[1], e[2]};
-        return e;
+        return turned[block];
     }
 
     private boolean plain(int block) {
-        for (int t = 0; t < block % 4; t++) {
-            if (Arrays.equals(edges(block / 4 * 4 + t), edges(block))) return false;
-        }
-        return true;
+        return isPlain[block];
     }
 
     int block(int block, int what) {
@@ -322,55 +330,57 @@ final class Model {
         return hues;
     }
 
-    /** All quilts, limit at most; null if it takes too long. */
-    private List<int[]> quilts(State from, int limit) {
-        List<int[]> found = new ArrayList<>();
-        budget = 50000;
-        extend(from.copy(), from, 0, limit, found);
-        return budget < 0 ? null : found;
+    /** Takes the quilts as they come. */
+    private interface Taker {
+        /** Whether more are wanted; the blocks are the walk's own. */
+        boolean take(int[] blocks);
     }
 
-    private void extend(State st, State from, int s, int limit, List<int[]> found) {
-        if (found.size() >= limit || budget-- < 0) return;
-        if (s == squares()) {
-            found.add(st.block.clone());
-            return;
-        }
-        if (from.block[s] != NONE) {
-            extend(st, from, s + 1, limit, found);
-            return;
-        }
+    /** Whether the taker wanted more to the end. */
+    private boolean walk(State st, int s, Taker taker) {
+        if (s == squares()) return taker.take(st.block);
+        if (st.block[s] != NONE) return walk(st, s + 1, taker);
         for (int b = 0; b < 4 * kinds.size(); b++) {
-            if (plain(b) && why(st, s, b) == 0) {
-                st.block[s] = b;
-                extend(st, from, s + 1, limit, found);
-                st.block[s] = NONE;
-            }
+            if (!plain(b) || why(st, s, b) != 0) continue;
+            st.block[s] = b;
+            boolean more = walk(st, s + 1, taker);
+            st.block[s] = NONE;
+            if (!more) return false;
         }
+        return true;
+    }
+
+    /** The first quilts, limit at most. */
+    private List<int[]> quilts(State from, int limit) {
+        List<int[]> found = new ArrayList<>();
+        walk(from.copy(), 0, blocks -> {
+            found.add(blocks.clone());
+            return found.size() < limit;
+        });
+        return found;
     }
 
     int many(int most) {
-        if (most < 1 || most > 300) return BAD;
-        List<int[]> all = quilts(state, most);
-        return all == null ? UNKNOWN : all.size();
+        return most < 1 || most > 300 ? BAD : quilts(state, most).size();
     }
 
     int quilt(int k, int s) {
         if (k < 0 || k > 299 || badSquare(s)) return BAD;
         List<int[]> all = quilts(state, k + 1);
-        if (all == null) return UNKNOWN;
         return k < all.size() ? all.get(k)[s] : NONE;
     }
 
     int sure() {
-        List<int[]> all = quilts(state, Integer.MAX_VALUE);
-        if (all == null) return UNKNOWN;
+        List<int[]> first = quilts(state, 1);
+        if (first.isEmpty()) return 0;
+        boolean[] same = new boolean[squares()];
+        for (int s = 0; s < squares(); s++) same[s] = state.block[s] == NONE;
+        walk(state.copy(), 0, blocks -> {
+            for (int s = 0; s < blocks.length; s++) same[s] &= blocks[s] == first.get(0)[s];
+            return true;
+        });
         int bits = 0;
-        for (int s = 0; s < squares() && !all.isEmpty(); s++) {
-            boolean same = state.block[s] == NONE;
-            for (int[] q : all) same &= q[s] == all.get(0)[s];
-            if (same) bits |= 1 << s;
-        }
+        for (int s = 0; s < squares(); s++) if (same[s]) bits |= 1 << s;
         return bits;
     }
 
@@ -388,9 +398,7 @@ final class Model {
         for (int n = 0; n <= 9; n++) {
             State st = state.copy();
             st.stock[k] = n;
-            List<int[]> one = quilts(st, 1);
-            if (one == null) return UNKNOWN;
-            if (!one.isEmpty()) return n;
+            if (!quilts(st, 1).isEmpty()) return n;
         }
         return NONE;
     }

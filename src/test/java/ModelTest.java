@@ -7,7 +7,6 @@ public final class ModelTest {
         "made", "keep", "back", "count"};
     private static final int RUNS = 3000;
     private static final int[] asked = new int[NAMES.length];
-    private static int unknown;
 
     public static void main(String[] args) {
         Due due = new Due();
@@ -17,7 +16,6 @@ public final class ModelTest {
         for (int i = 0; i < NAMES.length; i++) {
             due.holds(NAMES[i] + " was asked for", asked[i] > 0);
         }
-        System.out.println("answers that the model left out: " + unknown);
         due.end("ModelTest");
     }
 
@@ -152,10 +150,6 @@ public final class ModelTest {
         int want = ask(y, which, a, b, c);
         int got = ask(x, which, a, b, c);
         asked[which]++;
-        if (want == Model.UNKNOWN) {
-            unknown++;
-            return;
-        }
         due.is("seed " + seed + ": " + NAMES[which] + "(" + a + ", " + b + ", " + c + ")", got, want);
     }
 
